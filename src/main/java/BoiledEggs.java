@@ -528,7 +528,10 @@ public final class BoiledEggs {
         int eggAtPlace(int place) {
             int ahead = 0;
             for (int egg = 0; egg < MOST_EGGS; egg++) {
-                if (isInBox(egg) && ahead++ == place) return egg;
+                if (isInBox(egg)) {
+                    if (ahead == place) return egg;
+                    ahead++;
+                }
             }
             return NONE;
         }
@@ -725,48 +728,40 @@ public final class BoiledEggs {
     }
 
     private static final class Doubter extends Trier {
-        @Override
         int kind() {
             return 1;
         }
 
-        @Override
         long score(Told told, int egg) {
             return Math.abs(2 * told.boiledWeight(egg) - told.allWeight());
         }
     }
 
     private static final class Bold extends Trier {
-        @Override
         int kind() {
             return 2;
         }
 
-        @Override
         long score(Told told, int egg) {
             return told.boiledWeight(egg);
         }
     }
 
     private static class Hungry extends Trier {
-        @Override
         int kind() {
             return 3;
         }
 
-        @Override
         long score(Told told, int egg) {
             return -told.boiledWeight(egg);
         }
     }
 
     private static final class Greedy extends Hungry {
-        @Override
         int kind() {
             return 4;
         }
 
-        @Override
         boolean takesLast() {
             return true;
         }

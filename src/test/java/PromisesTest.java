@@ -244,6 +244,8 @@ public final class PromisesTest {
         due("digest()", y.digest(), before);
         due("stop(0, 1)", y.stop(0, 1), 2);
         due("stop(1, 1), one alone is", y.stop(1, 1), STATE);
+        due("stop(0, 0), it is boiled", y.stop(0, 0), STATE);
+        due("egg(0, 4)", y.egg(0, 4), 1);
     }
 
     private static void crack() {
@@ -262,6 +264,8 @@ public final class PromisesTest {
         BoiledEggs y = in("31:823;211");
         y.stop(1, 2);
         due("crack(1, true), fell", y.crack(1, true), STATE);
+        due("crack(0, false), all are boiled", in("22:823;11").crack(0, false), STATE);
+        due("crack(0, true), none is boiled", in("20:823;11").crack(0, true), STATE);
     }
 
     private static void likely() {
