@@ -6,8 +6,9 @@ import java.util.Map;
 import java.util.Random;
 
 /**
- * Long runs of calls, by a fixed seed, against a second program that was written from the document alone: it keeps
- * a list of all that was told and reckons each answer from that list anew, by fractions without a limit.
+ * Long runs of calls, by a fixed seed, against a second program: it keeps a list of all that was told and reckons each
+ * answer from that list anew, by fractions without a limit. It is by the same hand as the class and reads the document
+ * in the same way, so it finds slips, not words that were misread.
  */
 public final class ModelTest {
     private static final int NONE = -1, UNKNOWN = -101, OUTSIDE = -102, STATE = -103, FULL = -104;
