@@ -160,6 +160,10 @@ public final class LikelyBoundsTest {
         Run.in("30:735;111").due("worst(3, 0)", 3).due("stop(0, 2)", 2).due("worst(3, 0)", NONE).due("worst(2, 0)", 2).due("worst(2, 1)", 1)
             .due("crack(2, false)", 1).due("worst(2, 0)", NONE).due("worst(1, 0)", 1).due("worst(1, 1)", 1).due("crack(1, false)", 0)
             .due("worst(1, 0)", NONE).due("worst(1, 1)", NONE).dueParts("mean(1, ", NONE, 0);
+        // What was reckoned for six does not come into what is asked of three, nor of six again.
+        Run.in("63:735;111111").due("image()", 6).due("worst(1, 0)", 4).dueParts("mean(1, ", 7, 4)
+            .then("crack(3, false)", "crack(4, false)", "crack(5, true)").due("worst(1, 0)", 3).dueParts("mean(1, ", 2, 1)
+            .due("worst(2, 0)", NONE).due("restore()", 6).dueParts("mean(1, ", 7, 4).due("worst(3, 0)", 6).dueParts("mean(3, ", 21, 4);
         Run.sentence(13, "in some BOX of WEIGHT above 0");
         Run.in("31:735;111").due("stop(0, 2)", 2).due("worst(1, 0)", 2).due("worst(2, 0)", NONE).dueParts("mean(2, ", NONE, 0);
         Run.in("31:735;111").due("stop(0, 1)", 3).due("stop(0, 2)", 2).due("worst(2, 0)", 2).due("worst(2, 1)", 1).dueParts("mean(2, ", 2, 1);
