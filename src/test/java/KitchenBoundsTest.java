@@ -206,6 +206,7 @@ public final class KitchenBoundsTest {
     }
 
     public static void main(String[] args) {
+        Watch.begin();
         aNewObject();
         letter();
         blank();

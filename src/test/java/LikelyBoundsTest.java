@@ -222,6 +222,7 @@ public final class LikelyBoundsTest {
     }
 
     public static void main(String[] args) {
+        Watch.begin();
         likely();
         likeliest();
         turning();

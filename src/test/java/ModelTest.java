@@ -486,6 +486,7 @@ public final class ModelTest {
     }
 
     public static void main(String[] args) {
+        Watch.begin();
         for (int number = 1; number <= RUNS; number++) run(number);
         System.out.println(wrong == 0 ? "all runs agree with the model" : wrong + " answers differ from the model's");
         if (wrong != 0) System.exit(1);

@@ -633,6 +633,7 @@ public final class PromisesTest {
     }
 
     public static void main(String[] args) {
+        Watch.begin();
         for (int number = 1; number <= 24; number++) tryPromise(number);
         System.out.println(wrong == 0 ? "all promises hold" : wrong + " answers are not as due");
         if (wrong != 0) System.exit(1);

@@ -181,6 +181,7 @@ public final class RefusalsTest {
     }
 
     public static void main(String[] args) {
+        Watch.begin();
         withoutKitchen();
         withKitchen();
         Run.end();

@@ -142,6 +142,7 @@ public final class ToldBoundsTest {
     }
 
     public static void main(String[] args) {
+        Watch.begin();
         spinOfWhich();
         spinThatCannotBe();
         eightSpins();

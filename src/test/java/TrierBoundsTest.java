@@ -121,6 +121,7 @@ public final class TrierBoundsTest {
     }
 
     public static void main(String[] args) {
+        Watch.begin();
         trier();
         about();
         next();

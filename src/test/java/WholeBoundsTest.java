@@ -228,6 +228,7 @@ public final class WholeBoundsTest {
     }
 
     public static void main(String[] args) {
+        Watch.begin();
         fits();
         morningsWhich();
         mornings();

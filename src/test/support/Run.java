@@ -11,26 +11,10 @@ final class Run {
     /** What an object answers behind so many calls is free, so that no test may rely on it. */
     static final int MOST_CALLS = 512;
     private static final int MOST_SHOWN = 10;
-    private static final long MOST_SECONDS = 120;
 
     private static int wrong = 0;
     private static int sentences = 0;
     private static String sentence = "";
-
-    // A call that does not end is a fault like another: the test ends, and tells it.
-    static {
-        Thread watch = new Thread(() -> {
-            try {
-                Thread.sleep(MOST_SECONDS * 1000);
-            } catch (InterruptedException e) {
-                return;
-            }
-            System.out.println(sentence + ": a call did not end in " + MOST_SECONDS + " seconds");
-            Runtime.getRuntime().halt(1);
-        });
-        watch.setDaemon(true);
-        watch.start();
-    }
 
     private final BoiledEggs eggs = new BoiledEggs();
     private final List<String> calls = new ArrayList<>();
