@@ -79,24 +79,18 @@ public final class ReadmeTest {
     /** Read as a text, a call may pass what Java would refuse (1 for true). */
     private static void checkShownCallsCompile(String text) throws IOException {
         JavaCompiler compiler = ToolProvider.getSystemJavaCompiler();
-        Path folder = Files.createTempDirectory("readme");
+        String classes = System.getProperty("java.class.path");
+        // Beside the classes: what is written there goes when they go.
+        Path folder = Files.createTempDirectory(Path.of(classes), "readme");
         Matcher block = Pattern.compile("(?s)```java\\n(.*?)```").matcher(text);
         for (int number = 0; compiler != null && block.find(); number++) {
             Path source = folder.resolve("Shown" + number + ".java");
             Files.writeString(source, "class Shown" + number + " { void shown() {\n" + block.group(1) + "} }\n");
-            int exit = compiler.run(null, null, null, "-proc:none", "-cp", System.getProperty("java.class.path"),
+            int exit = compiler.run(null, null, null, "-proc:none", "-cp", classes,
                 "-d", folder.toString(), source.toString());
             check(exit == 0, "the calls shown are Java");
         }
         check(compiler != null, "there is a compiler for the calls shown");
-        remove(folder);
-    }
-
-    private static void remove(Path folder) throws IOException {
-        try (Stream<Path> files = Files.list(folder)) {
-            for (Path file : files.toList()) Files.delete(file);
-        }
-        Files.delete(folder);
     }
 
     private static void checkNamesEveryCall(String text) {
